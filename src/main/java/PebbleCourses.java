@@ -27,6 +27,13 @@ public final class PebbleCourses {
     private static final int RULE_GREATEST = 0;
     private static final int RULE_MOST_STOCK = 2;
 
+    private static final int CELLS = 0;
+    private static final int PEBBLES = 1;
+    private static final int FREE = 2;
+    private static final int CLOSED = 3;
+    private static final int JOINTS = 4;
+    private static final int MEETING_JOINTS = 5;
+    private static final int FILLERS = 6;
     private static final int PROPERTIES = 7;
     private static final int CELL_ANSWERS = 4;
     private static final int COUNTS = 8;
@@ -99,7 +106,7 @@ public final class PebbleCourses {
         for (int c = 0; c < COURSES; c++) {
             mosaic.fillCourse(c, rule);
         }
-        return mosaic.closedCourses();
+        return mosaic.summed(CLOSED);
     }
 
     /** Changes a setting. Undoable. Returns the previous value. */
@@ -107,7 +114,7 @@ public final class PebbleCourses {
             throws IndexOutOfBoundsException, IllegalArgumentException, IllegalStateException {
         needSetting(setting);
         needArgument(isSettingValue(setting, value));
-        needState(setting != CELLS_SETTING || mosaic.takenCells() == 0);
+        needState(setting != CELLS_SETTING || mosaic.summed(PEBBLES) == 0);
         history.save(mosaic);
         int previous = mosaic.settingOf(setting);
         mosaic.changeSetting(setting, value);
@@ -171,22 +178,7 @@ public final class PebbleCourses {
     public int course(int course, int what) throws IndexOutOfBoundsException, IllegalArgumentException {
         needCourse(course);
         needArgument(what >= 0 && what < PROPERTIES);
-        switch (what) {
-            case 0:
-                return mosaic.cellsOf(course);
-            case 1:
-                return mosaic.pebblesOf(course);
-            case 2:
-                return mosaic.freeOf(course);
-            case 3:
-                return numberOf(mosaic.isClosed(course));
-            case 4:
-                return mosaic.jointsOf(course);
-            case 5:
-                return mosaic.meetingJointsOf(course);
-            default:
-                return mosaic.fillersOf(course);
-        }
+        return mosaic.property(course, what);
     }
 
     /** Returns something of a cell. */
@@ -225,15 +217,15 @@ public final class PebbleCourses {
         needArgument(what >= 0 && what < COUNTS);
         switch (what) {
             case 0:
-                return mosaic.pebbles();
+                return mosaic.summed(PEBBLES);
             case 1:
-                return mosaic.closedCourses();
+                return mosaic.summed(CLOSED);
             case 2:
-                return mosaic.joints();
+                return mosaic.summed(JOINTS);
             case 3:
                 return mosaic.throughJoints();
             case 4:
-                return mosaic.fillers();
+                return mosaic.summed(FILLERS);
             case 5:
                 return mosaic.wasted();
             case 6:
@@ -293,9 +285,9 @@ public final class PebbleCourses {
             for (int c = 0; c < COURSES; c++) {
                 trial.fillCourse(c, rule);
             }
-            int closed = trial.closedCourses();
+            int closed = trial.summed(CLOSED);
             int waste = trial.wasted();
-            int pebbles = trial.pebbles();
+            int pebbles = trial.summed(PEBBLES);
             boolean isBetter = closed != bestClosed ? closed > bestClosed
                     : waste != bestWaste ? waste < bestWaste : pebbles < bestPebbles;
             if (best == NONE || isBetter) {
@@ -310,8 +302,9 @@ public final class PebbleCourses {
 
     /** Returns the cells that are taken, divided by the cells of all courses. */
     public double share() {
-        int all = mosaic.allCells();
-        return all > 0 ? (double) mosaic.takenCells() / (double) all : 0.0;
+        int all = mosaic.summed(CELLS);
+        int taken = all - mosaic.summed(FREE);
+        return all > 0 ? (double) taken / (double) all : 0.0;
     }
 
     /** Computes a hash of the whole state. */
@@ -342,7 +335,7 @@ public final class PebbleCourses {
     private long mixedWithCourse(long before, int c) {
         long hash = before;
         for (int what = 0; what < PROPERTIES; what++) {
-            hash = mixed(hash, course(c, what));
+            hash = mixed(hash, mosaic.property(c, what));
         }
         int cells = mosaic.cellsOf(c);
         for (int p = 0; p < cells; p++) {
@@ -514,10 +507,6 @@ public final class PebbleCourses {
             return isCourse(c) ? cells[c] - taken[c] : 0;
         }
 
-        boolean isClosed(int c) {
-            return freeOf(c) == 0;
-        }
-
         /** The cell that a cell meets in the course outside, NONE for the course 0. */
         int meets(int c, int p) {
             if (c < 1 || c >= COURSES || cells[c] < 1) {
@@ -673,7 +662,7 @@ public final class PebbleCourses {
             return 0;
         }
 
-        int pebblesOf(int c) {
+        private int pebblesOf(int c) {
             int many = 0;
             int end = takenOf(c);
             for (int p = 0; p < end; p++) {
@@ -682,7 +671,7 @@ public final class PebbleCourses {
             return many;
         }
 
-        int fillersOf(int c) {
+        private int fillersOf(int c) {
             int many = 0;
             int end = takenOf(c);
             for (int p = 0; p < end; p++) {
@@ -691,7 +680,7 @@ public final class PebbleCourses {
             return many;
         }
 
-        int jointsOf(int c) {
+        private int jointsOf(int c) {
             int many = 0;
             int end = cellsOf(c);
             for (int p = 0; p < end; p++) {
@@ -710,36 +699,32 @@ public final class PebbleCourses {
             return many;
         }
 
-        int pebbles() {
-            int many = 0;
-            for (int c = 0; c < COURSES; c++) {
-                many += pebblesOf(c);
+        int property(int c, int what) {
+            switch (what) {
+                case CELLS:
+                    return cellsOf(c);
+                case PEBBLES:
+                    return pebblesOf(c);
+                case FREE:
+                    return freeOf(c);
+                case CLOSED:
+                    return freeOf(c) == 0 ? 1 : 0;
+                case JOINTS:
+                    return jointsOf(c);
+                case MEETING_JOINTS:
+                    return meetingJointsOf(c);
+                default:
+                    return fillersOf(c);
             }
-            return many;
         }
 
-        int fillers() {
-            int many = 0;
+        /** A property of all courses together. */
+        int summed(int what) {
+            int sum = 0;
             for (int c = 0; c < COURSES; c++) {
-                many += fillersOf(c);
+                sum += property(c, what);
             }
-            return many;
-        }
-
-        int closedCourses() {
-            int many = 0;
-            for (int c = 0; c < COURSES; c++) {
-                many += isClosed(c) ? 1 : 0;
-            }
-            return many;
-        }
-
-        int joints() {
-            int many = 0;
-            for (int c = 0; c < COURSES; c++) {
-                many += jointsOf(c);
-            }
-            return many;
+            return sum;
         }
 
         int throughJoints() {
@@ -757,22 +742,6 @@ public final class PebbleCourses {
             int sum = 0;
             for (int size = 1; size <= GREATEST_SIZE; size++) {
                 sum += size * inStock(size);
-            }
-            return sum;
-        }
-
-        int takenCells() {
-            int sum = 0;
-            for (int c = 0; c < COURSES; c++) {
-                sum += takenOf(c);
-            }
-            return sum;
-        }
-
-        int allCells() {
-            int sum = 0;
-            for (int c = 0; c < COURSES; c++) {
-                sum += cellsOf(c);
             }
             return sum;
         }

@@ -201,7 +201,9 @@ final class PromisesTest {
         }
         x.stock(5, 0);
         CHECKS.due("cut(0, 5) from the 6", 1, x.cut(0, 5));
-        x.stock(6, 0);
+        x.stock(6, 1);
+        CHECKS.due("cut(0, 4) from the last 6", 2, x.cut(0, 4));
+        CHECKS.due("stockOf(6)", 0, x.stockOf(6));
         CHECKS.state("cut(0, 1) without greater ones", () -> x.cut(0, 1));
         PebbleCourses closed = with("f66");
         CHECKS.state("cut(5, 1), where it is closed", () -> closed.cut(5, 1));
@@ -520,6 +522,7 @@ final class PromisesTest {
             }
         }
         CHECKS.dueText("joints of 1", "[0, 6, 8, 12, 18]", joints(x, 1));
+        CHECKS.due("course(1, 5) of a joint at 1", 1, with("a1;b1").course(1, 5));
         for (int c : new int[] {-1, 6, LEAST, MOST}) {
             CHECKS.index("course(" + c + ", 7)", () -> x.course(c, 7));
         }
@@ -552,6 +555,7 @@ final class PromisesTest {
         for (int what : new int[] {-1, 4, LEAST, MOST}) {
             CHECKS.argument("cell(5, 11, " + what + ")", () -> x.cell(5, 11, what));
         }
+        CHECKS.dueText("joints of one pebble of one cell", "[0, 1]", joints(with("b1"), 1));
         PebbleCourses closed = with("f66");
         CHECKS.dueText("joints of a closed course", "[0, 6]", joints(closed, 5));
         CHECKS.due("nothing is saved", 1, x.count(7));
@@ -573,6 +577,14 @@ final class PromisesTest {
         CHECKS.due("4 of a filler", 4, x.refusal(2, 1, true));
         x.stock(1, 0);
         CHECKS.due("a filler does not need its own size", 4, x.refusal(2, 1, true));
+        PebbleCourses far = with("a6666;b6663;c66");
+        far.stock(6, 1);
+        CHECKS.due("4 far from the beginning", 4, far.refusal(2, 6, false));
+        CHECKS.due("0 there of 5", 0, far.refusal(2, 5, false));
+        CHECKS.due("4 in the course 3", 4, with("b61;c6").refusal(3, 5, false));
+        CHECKS.due("4 in the course 4", 4, with("c6;d5").refusal(4, 4, false));
+        CHECKS.due("4 in the course 5", 4, with("d5;e4").refusal(5, 3, false));
+        CHECKS.due("two courses are not three", 0, with("a4").refusal(1, 4, false));
         PebbleCourses y = with("f65");
         CHECKS.due("2", 2, y.refusal(5, 2, false));
         CHECKS.due("2 of a filler", 2, y.refusal(5, 6, true));
@@ -621,6 +633,8 @@ final class PromisesTest {
         }
         x.takeUp(0, 1);
         CHECKS.due("count(3) without the outermost one", 0, x.count(3));
+        CHECKS.due("count(3) of a joint at 1", 1, with("c1;b1;a1").count(3));
+        CHECKS.due("count(3) of the courses 3 to 5", 2, with("f3;e4;d5;c6").count(3));
         PebbleCourses none = fresh();
         for (int size = 1; size <= 6; size++) {
             none.stock(size, size);
@@ -671,6 +685,10 @@ final class PromisesTest {
         PebbleCourses inside = with("c4;b4;a4");
         CHECKS.due("count(3)", 1, inside.count(3));
         CHECKS.due("a joint that is there already bars nothing", 4, inside.fewest(2));
+        PebbleCourses longest = fresh();
+        longest.set(0, 60);
+        CHECKS.due("fewest(0) of 60 cells", 10, longest.fewest(0));
+        CHECKS.due("fewest(5) of 40 cells", 7, longest.fewest(5));
         long before = x.digest();
         x.fewest(0);
         CHECKS.due("nothing is changed", before, x.digest());
