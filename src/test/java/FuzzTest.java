@@ -91,19 +91,11 @@ final class FuzzTest {
             int code = text.charAt(k);
             Checks.Call modelCall = () -> model.append(code);
             Checks.Call realCall = () -> real.append(code);
-            CHECKS.dueText("append(" + code + ")", answer(modelCall), answer(realCall));
+            CHECKS.dueText("append(" + code + ")", Checks.answer(modelCall), Checks.answer(realCall));
         }
         CHECKS.due("firstError() of " + text, model.firstError(), real.firstError());
         if (random.nextInt(2) == 0) {
-            CHECKS.dueText("layAll() of " + text, answer(model::layAll), answer(real::layAll));
-        }
-    }
-
-    private static String answer(Checks.Call call) {
-        try {
-            return Long.toString(call.run());
-        } catch (RuntimeException e) {
-            return e.getClass().getSimpleName();
+            CHECKS.dueText("layAll() of " + text, Checks.answer(model::layAll), Checks.answer(real::layAll));
         }
     }
 

@@ -1,12 +1,5 @@
-import java.util.ArrayList;
-import java.util.List;
-
 /** Each promise of the document by answers worked out by hand: ordinary inputs, edges, wrong inputs. */
-final class PromisesTest {
-    private static final int NONE = PebbleCourses.NONE;
-    private static final int LEAST = Integer.MIN_VALUE;
-    private static final int MOST = Integer.MAX_VALUE;
-
+final class PromisesTest extends Mosaics {
     private static final Checks CHECKS = new Checks();
 
     public static void main(String[] args) {
@@ -36,55 +29,6 @@ final class PromisesTest {
         share();
         digest();
         CHECKS.end();
-    }
-
-    private static PebbleCourses fresh() {
-        return new PebbleCourses();
-    }
-
-    private static PebbleCourses with(String text) {
-        PebbleCourses x = fresh();
-        type(x, text);
-        x.layAll();
-        return x;
-    }
-
-    private static void type(PebbleCourses x, String text) {
-        for (int i = 0; i < text.length(); i++) {
-            x.append(text.charAt(i));
-        }
-    }
-
-    private static void onlyStockOf(PebbleCourses x, int size, int many) {
-        for (int s = 1; s <= 6; s++) {
-            x.stock(s, s == size ? many : 0);
-        }
-    }
-
-    /** The joint at the cell 6 of the course 2 would run through: it meets 7 in the course 1, and that 8. */
-    private static PebbleCourses barredAtSix() {
-        return with("a62;b61");
-    }
-
-    /** The sizes along a course, as a text. */
-    private static String sizes(PebbleCourses x, int course) {
-        StringBuilder text = new StringBuilder();
-        for (int p = 0; p < x.course(course, 0); p++) {
-            int size = x.cell(course, p, 0);
-            text.append(size == NONE ? "." : Integer.toString(size));
-        }
-        return text.toString();
-    }
-
-    /** The cells of a course that have a joint. */
-    private static String joints(PebbleCourses x, int course) {
-        List<Integer> cells = new ArrayList<>();
-        for (int p = 0; p < x.course(course, 0); p++) {
-            if (x.cell(course, p, 1) == 1) {
-                cells.add(p);
-            }
-        }
-        return cells.toString();
     }
 
     private static void newObject() {
@@ -514,8 +458,8 @@ final class PromisesTest {
     private static void course() {
         CHECKS.at("promise 14");
         PebbleCourses x = with("a6666;b62!46;f66");
-        int[][] due = {{32, 4, 8, 0, 5, 0, 0}, {28, 4, 10, 0, 5, 1, 1}, {24, 0, 24, 0, 0, 0, 0}, {20, 0, 20, 0, 0, 0, 0},
-            {16, 0, 16, 0, 0, 0, 0}, {12, 2, 0, 1, 2, 0, 0}};
+        int[][] due = {{32, 4, 8, 0, 5, 0, 0}, {28, 4, 10, 0, 5, 1, 1}, {24, 0, 24, 0, 0, 0, 0},
+            {20, 0, 20, 0, 0, 0, 0}, {16, 0, 16, 0, 0, 0, 0}, {12, 2, 0, 1, 2, 0, 0}};
         for (int c = 0; c < 6; c++) {
             for (int what = 0; what < 7; what++) {
                 CHECKS.due("course(" + c + ", " + what + ")", due[c][what], x.course(c, what));
@@ -657,15 +601,6 @@ final class PromisesTest {
         for (int setting : new int[] {-1, 3, LEAST, MOST}) {
             CHECKS.index("setting(" + setting + ")", () -> x.setting(setting));
         }
-    }
-
-    /** The first cells of the courses 0 and 1 have a joint each, so no pebble could be laid in the course 2. */
-    private static PebbleCourses barredAtAll() {
-        PebbleCourses x = fresh();
-        x.stock(1, 20);
-        type(x, "a1111111111;b1111111111");
-        x.layAll();
-        return x;
     }
 
     private static void fewest() {
@@ -827,41 +762,5 @@ final class PromisesTest {
             y.stock(1 + k % 5, 9);
             CHECKS.due("digest() on the way", digestOf(y, ""), y.digest());
         }
-    }
-
-    private static long digestOf(PebbleCourses x, String buffer) {
-        List<Long> values = new ArrayList<>();
-        for (int what = 0; what < 8; what++) {
-            values.add((long) x.count(what));
-        }
-        for (int setting = 0; setting < 3; setting++) {
-            values.add((long) x.setting(setting));
-        }
-        for (int size = 1; size <= 6; size++) {
-            values.add((long) x.stockOf(size));
-        }
-        for (int c = 0; c < 6; c++) {
-            for (int what = 0; what < 7; what++) {
-                values.add((long) x.course(c, what));
-            }
-            for (int p = 0; p < x.course(c, 0); p++) {
-                values.add((long) x.cell(c, p, 0));
-                values.add((long) x.cell(c, p, 3));
-            }
-            values.add((long) x.fewest(c));
-            values.add((long) x.nextSize(c));
-            for (int i = 0; i < 6; i++) {
-                values.add((long) x.ifFilled(c, i / 3, i % 3));
-            }
-        }
-        values.add((long) x.bestRule());
-        values.add(Double.doubleToLongBits(x.share()));
-        values.add((long) buffer.length());
-        buffer.chars().forEach(code -> values.add((long) code));
-        long hash = 2903;
-        for (long value : values) {
-            hash = 31 * hash + value;
-        }
-        return hash;
     }
 }
